@@ -808,7 +808,7 @@ public final class CloneVolumes {
         boolean readStore(Plan plan) {
             plan.clear();
             begin(plan.code);
-            for (int i = 0; i < MOST_STATEMENTS && fault == 0 && kind != AT_END; i++) {
+            for (int i = 0; i < MOST_STATEMENTS && kind != AT_END; i++) {
                 readStatement(plan);
             }
             if (kind != AT_END) {
@@ -856,11 +856,12 @@ public final class CloneVolumes {
             advance();
         }
 
-        /** Keeps the first FAULT alone: what is read behind one tells nothing. */
+        /** Keeps the first FAULT, and reads no further: for all that is still asked the text is at its end. */
         private boolean fail(int which, int where) {
             if (fault == 0) {
                 fault = which;
                 place = where;
+                kind = AT_END;
             }
             return false;
         }
@@ -868,6 +869,9 @@ public final class CloneVolumes {
         // ---- words, numbers, signs
 
         private void advance() {
+            if (fault != 0) {
+                return;
+            }
             start = stop;
             while (start < tape.length && isBlank(tape.bytes[start])) {
                 start++;
@@ -905,7 +909,7 @@ public final class CloneVolumes {
             boolean same = true;
             for (int i = 0; i < WORDS.length(); i++) {
                 if (WORDS.charAt(i) != ' ') {
-                    same = same && at < stop && tape.at(at) == WORDS.charAt(i);
+                    same = same && at < stop && tape.bytes[at] == WORDS.charAt(i);
                     at++;
                 } else if (same && at == stop) {
                     return number;
@@ -983,7 +987,7 @@ public final class CloneVolumes {
         }
 
         private int expectVolume(Plan plan) {
-            if (fault != 0 || !isName()) {
+            if (!isName()) {
                 return NONE;
             }
             int volume = plan.volumeNamed(tape, start, stop);
@@ -1046,7 +1050,7 @@ public final class CloneVolumes {
                 fail(TOO_MANY, start);
             }
             advance();
-            if (fault != 0 || !isName()) {
+            if (!isName()) {
                 return;
             }
             if (plan.volumeNamed(tape, start, stop) != NONE) {
@@ -1084,7 +1088,7 @@ public final class CloneVolumes {
 
         private void readTest() {
             readBoth();
-            for (int i = 0; i < MOST_TAPE && fault == 0 && isWord(W_OR); i++) {
+            for (int i = 0; i < MOST_TAPE && isWord(W_OR); i++) {
                 advance();
                 readBoth();
                 code.add(EITHER);
@@ -1093,7 +1097,7 @@ public final class CloneVolumes {
 
         private void readBoth() {
             readFact();
-            for (int i = 0; i < MOST_TAPE && fault == 0 && isWord(W_AND); i++) {
+            for (int i = 0; i < MOST_TAPE && isWord(W_AND); i++) {
                 advance();
                 readFact();
                 code.add(BOTH);
@@ -1112,18 +1116,21 @@ public final class CloneVolumes {
                 if (opens()) {
                     advance();
                     readTest();
-                    closes(']');
+                    expectSign(']');
+                    open--;
                 }
             } else if (isWord(W_ALL)) {
                 code.add(1);
                 advance();
             } else {
-                readComparison();
+                readSum();
+                int step = comparison();
+                readSum();
+                code.add(step);
             }
         }
 
-        private void readComparison() {
-            readSum();
+        private int comparison() {
             int step = SAME;
             if (isSign('<')) {
                 step = BELOW;
@@ -1132,16 +1139,13 @@ public final class CloneVolumes {
             } else if (!isSign('=')) {
                 fail(NO_TEXT, start);
             }
-            if (fault == 0) {
-                advance();
-                readSum();
-                code.add(step);
-            }
+            advance();
+            return step;
         }
 
         private void readSum() {
             readProduct();
-            for (int i = 0; i < MOST_TAPE && fault == 0 && (isSign('+') || isSign('-')); i++) {
+            for (int i = 0; i < MOST_TAPE && (isSign('+') || isSign('-')); i++) {
                 int step = isSign('+') ? ADD : SUBTRACT;
                 advance();
                 readProduct();
@@ -1151,7 +1155,7 @@ public final class CloneVolumes {
 
         private void readProduct() {
             readPart();
-            for (int i = 0; i < MOST_TAPE && fault == 0 && (isSign('*') || isSign('/')); i++) {
+            for (int i = 0; i < MOST_TAPE && (isSign('*') || isSign('/')); i++) {
                 int step = isSign('*') ? MULTIPLY : DIVIDE;
                 advance();
                 readPart();
@@ -1166,7 +1170,8 @@ public final class CloneVolumes {
                 if (opens()) {
                     advance();
                     readSum();
-                    closes(')');
+                    expectSign(')');
+                    open--;
                 }
             } else if (isWord(W_MIN) || isWord(W_MAX)) {
                 readChoice(isWord(W_MIN) ? LESSER : GREATER);
@@ -1188,11 +1193,10 @@ public final class CloneVolumes {
                 advance();
                 readSum();
                 expectSign(',');
-                if (fault == 0) {
-                    readSum();
-                    closes(')');
-                    code.add(step);
-                }
+                readSum();
+                expectSign(')');
+                open--;
+                code.add(step);
             }
         }
 
@@ -1211,11 +1215,6 @@ public final class CloneVolumes {
             }
             open++;
             return true;
-        }
-
-        private void closes(int which) {
-            expectSign(which);
-            open--;
         }
 
         private boolean isFact() {
