@@ -117,6 +117,7 @@ public final class CloneVolumes {
     private final Picture picture = new Picture();
     private final Walk walk = new Walk();
     private final Walk otherWalk = new Walk();
+    private final long[] trees = new long[MOST_VOLUMES];
     private final int[] refused = new int[REFUSALS];
     /** The plan of THE STORE, and one to read the next text into, as a text with a FAULT leaves all as it is. */
     private Plan plan = new Plan();
@@ -329,10 +330,15 @@ public final class CloneVolumes {
     }
 
     public int lost(int block) {
-        return forest.now.isBlock(block) ? lostWith(block) : NONE;
+        if (!forest.now.isBlock(block)) {
+            return NONE;
+        }
+        growTrees();
+        return lostWith(block);
     }
 
     public int worst(int what) {
+        growTrees();
         int block = NONE;
         int most = 0;
         for (int b = 0; b < forest.now.blocks; b++) {
@@ -392,20 +398,15 @@ public final class CloneVolumes {
     }
 
     public int fits(int k) {
-        int found = 0;
-        for (int v = 0; v < MOST_VOLUMES; v++) {
-            if (sight.agrees(forest.now, v)) {
-                if (found == k) {
-                    return v;
-                }
-                found++;
-            }
+        int found = sight.findFits(forest.now);
+        if (k == NONE) {
+            return found;
         }
-        return k == NONE ? found : NONE;
+        return k >= 0 && k < found ? sight.fit[k] : NONE;
     }
 
     public int tells(int what) {
-        if (fits(NONE) == 0) {
+        if (sight.findFits(forest.now) == 0) {
             return NONE;
         }
         int best = 0;
@@ -613,18 +614,20 @@ public final class CloneVolumes {
         return k == NONE ? found : NONE;
     }
 
-    private int lostWith(int block) {
+    /** Lays ready which BLOCKS are in the TREE of each VOLUME. */
+    private void growTrees() {
         State now = forest.now;
-        if (!now.inUse(block)) {
-            return 0;
-        }
-        int trees = 0;
         for (int v = 0; v < MOST_VOLUMES; v++) {
-            if (now.isVolume(v) && (walk.tree(now, now.roots[v]) >>> block & 1L) != 0L) {
-                trees++;
-            }
+            trees[v] = now.isVolume(v) ? walk.tree(now, now.roots[v]) : 0L;
         }
-        return trees * walk.gather(now, block);
+    }
+
+    private int lostWith(int block) {
+        int found = 0;
+        for (int v = 0; v < MOST_VOLUMES; v++) {
+            found += (int) (trees[v] >>> block & 1L);
+        }
+        return found == 0 ? 0 : found * walk.gather(forest.now, block);
     }
 
     private long answerTest(int what) {
@@ -2095,7 +2098,10 @@ public final class CloneVolumes {
         int rows;
         private final int[] keys = new int[MOST_ROWS];
         private final int[] values = new int[MOST_ROWS];
-        private final int[] found = new int[MOST_VOLUMES];
+        /** The VOLUMES that FIT, by number, as findFits() found them. */
+        final int[] fit = new int[MOST_VOLUMES];
+        private int fits;
+        private final int[] readings = new int[MOST_VOLUMES];
 
         boolean take(Tape tape) {
             int told = tape.length / ROW_BYTES;
@@ -2115,11 +2121,19 @@ public final class CloneVolumes {
             return true;
         }
 
-        /** Whether a VOLUME FITS. */
-        boolean agrees(State state, int volume) {
-            if (!state.isVolume(volume)) {
-                return false;
+        /** Lays the VOLUMES that FIT ready: how many. */
+        int findFits(State state) {
+            fits = 0;
+            for (int v = 0; v < MOST_VOLUMES; v++) {
+                if (state.isVolume(v) && agrees(state, v)) {
+                    fit[fits] = v;
+                    fits++;
+                }
             }
+            return fits;
+        }
+
+        private boolean agrees(State state, int volume) {
             for (int i = 0; i < rows; i++) {
                 if (reading(state, volume, keys[i]) != values[i]) {
                     return false;
@@ -2128,14 +2142,14 @@ public final class CloneVolumes {
             return true;
         }
 
-        /** How many FITS are left at the most when a KEY is read. */
+        /** How many of the FITS found are left at the most when a KEY is read. */
         int mostLeft(State state, int key) {
             int most = 0;
-            for (int v = 0; v < MOST_VOLUMES; v++) {
-                found[v] = agrees(state, v) ? reading(state, v, key) : NONE;
+            for (int i = 0; i < fits; i++) {
+                readings[i] = reading(state, fit[i], key);
                 int like = 0;
-                for (int w = 0; w <= v; w++) {
-                    like += found[v] != NONE && found[w] == found[v] ? 1 : 0;
+                for (int j = 0; j <= i; j++) {
+                    like += readings[j] == readings[i] ? 1 : 0;
                 }
                 most = Math.max(most, like);
             }
