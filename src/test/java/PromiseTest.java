@@ -604,6 +604,9 @@ public final class PromiseTest {
         due("27: no fits", x.tells(1), NONE);
         x = made("blocks 8 room 3; volume a; volume b; put a 100 1; put b 99 1;");
         due("27: below 100 alone", x.tells(0), 99);
+        x = made("blocks 8 room 3; volume a; volume b; put a 100 1;");
+        due("27: not by 100", x.tells(0), 0);
+        due("27: not by 100", x.tells(1), 2);
     }
 
     private static void p28put() {
@@ -954,7 +957,25 @@ public final class PromiseTest {
         changed();
         due("40: no store", Check.on(new CloneVolumes(), Check.image(new CloneVolumes())), false);
         due("40: other blocks", Check.on(made("blocks 13 room 3;"), image), false);
-        due("40: fewer entries", Check.on(made("blocks 12 room 4; volume q;"), image), true);
+        due("40: as many blocks, more room", Check.on(made("blocks 12 room 4; volume q;"), image), true);
+        due("40: no entries", Check.on(made(ONE), leaf(0)), false);
+        due("40: as many as room", Check.on(made(ONE), leaf(3)), true);
+        due("40: more than room", Check.on(made(ONE), leaf(4)), false);
+        due("40: most", Check.on(made("blocks 8 room 6;"), leaf(6)), true);
+        due("40: more than most", Check.on(made("blocks 8 room 6;"), leaf(7)), false);
+    }
+
+    /** An image of eight blocks: volume 0 has a leaf of n entries, block 7, which the checkpoint does not keep. */
+    private static byte[] leaf(int n) {
+        byte[] image = new byte[19 + 14 + 4 + 4 * n + 1];
+        Arrays.fill(image, 3, 19, (byte) 255);
+        image[3] = 7;
+        image[33] = 1;
+        image[36] = (byte) n;
+        for (int k = 0; k < n; k++) {
+            image[37 + 4 * k + 1] = (byte) (k + 1);
+        }
+        return Check.sealed(image);
     }
 
     /** Places in the image of TWO: 19 block 0 (10 20), 31 block 1 over 0 and 2, 43 block 2 (30 40), 55 block 3 over 4, 2. */
@@ -963,7 +984,7 @@ public final class PromiseTest {
         byte[] image = Check.image(x);
         due("40: block 1 stands at 31", image[31 + 2], 1);
         due("40: block 3 stands at 55", image[55 + 2], 1);
-        int[][] bad = {{0, 16}, {3, 12}, {3, 0}, {3, 255}, {3, 254}, {4, 2}, {5, 253}, {7, 1}, {19, 2}, {19, 0}, {20, 2},
+        int[][] bad = {{0, 16}, {3, 12}, {3, 0}, {3, 255}, {3, 254}, {4, 2}, {5, 253}, {7, 1}, {7, 12}, {8, 12}, {19, 2}, {19, 0}, {20, 2},
             {21, 1}, {21, 48}, {21, 255}, {22, 0}, {22, 4}, {23, 4}, {24, 20}, {25, 4}, {31 + 2, 2}, {31 + 2, 0},
             {31 + 3, 1}, {31 + 6, 1}, {31 + 7, 4}, {31 + 7, 12}, {31 + 9, 20}, {31 + 9, 31}, {31 + 11, 0}, {31 + 11, 5}};
         for (int[] change : bad) {
