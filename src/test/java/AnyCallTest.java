@@ -30,6 +30,7 @@ public final class AnyCallTest {
             }
         }
         deepest();
+        largest();
         room();
         Check.close();
     }
@@ -139,6 +140,37 @@ public final class AnyCallTest {
         Check.due("as the leaf alone", x.has(2), 1);
         x.undo();
         Check.due("freed", x.drop(0), 48);
+    }
+
+    /** 48 BLOCKS of six ENTRIES: 36 leaves under 6 under a root, and five leaves that are roots. */
+    private static void largest() {
+        byte[] image = new byte[3 + 16 + 48 * 28 + 1];
+        java.util.Arrays.fill(image, 3, 19, (byte) 255);
+        for (int v = 0; v < 6; v++) {
+            image[3 + 2 * v] = (byte) (42 + v);
+        }
+        for (int b = 0; b < 48; b++) {
+            int at = 19 + 28 * b;
+            image[at] = 1;
+            image[at + 2] = (byte) (b < 36 || b > 42 ? 0 : b < 42 ? 1 : 2);
+            image[at + 3] = 6;
+            for (int k = 0; k < 6; k++) {
+                boolean low = image[at + 2] == 0;
+                int key = b < 36 ? 6 * b + k : b < 42 ? 36 * (b - 36) + 6 * k : b == 42 ? 36 * k : k;
+                image[at + 4 + 4 * k + 1] = (byte) key;
+                image[at + 4 + 4 * k + 3] = (byte) (low ? k : b < 42 ? 6 * (b - 36) + k : 36 + k);
+            }
+        }
+        image = Check.sealed(image);
+        CloneVolumes x = new CloneVolumes();
+        Check.store(x, "blocks 48 room 6;");
+        Check.due("the largest image", Check.on(x, image), true);
+        Check.due("as many bytes", x.image(), 1364);
+        Check.due("the same", java.util.Arrays.equals(Check.image(x), image), true);
+        Check.due("its keys", x.volume(0, 1), 216);
+        Check.due("the last", x.key(0, 215), 215);
+        Check.due("none can be taken", x.put(0, 7, 7), -1);
+        Check.due("a leaf that is its own", x.remove(1, 5), 1);
     }
 
     private static void room() {
