@@ -795,6 +795,7 @@ public final class CloneVolumes {
         int fault;
         int place = NONE;
         private final Tape tape;
+        private final char[] words = WORDS.toCharArray();
         private Code code;
         private int mode;
         private int open;
@@ -910,9 +911,9 @@ public final class CloneVolumes {
             int number = 0;
             int at = start;
             boolean same = true;
-            for (int i = 0; i < WORDS.length(); i++) {
-                if (WORDS.charAt(i) != ' ') {
-                    same = same && at < stop && tape.bytes[at] == WORDS.charAt(i);
+            for (int i = 0; i < words.length; i++) {
+                if (words[i] != ' ') {
+                    same = same && at < stop && tape.bytes[at] == words[i];
                     at++;
                 } else if (same && at == stop) {
                     return number;
@@ -1323,7 +1324,8 @@ public final class CloneVolumes {
                 case ADD: exact = left + right; break;
                 case SUBTRACT: exact = left - right; break;
                 case MULTIPLY: exact = (long) left * right; break;
-                case DIVIDE: exact = right == 0 ? 0 : Math.floorDiv(left, right); break;
+                // Less what is left over, as Java's own / goes towards 0.
+                case DIVIDE: exact = right == 0 ? 0 : (left - (left % right + right) % right) / right; break;
                 case LESSER: exact = left < right ? left : right; break;
                 case GREATER: exact = left > right ? left : right; break;
                 case BELOW: exact = left < right ? 1 : 0; break;

@@ -34,7 +34,7 @@ final class Check {
         }
     }
 
-    /** Lays bytes on the tape, behind what is there. */
+    /** Lays bytes on the tape, in place of what is there. */
     static void lay(CloneVolumes x, byte[] bytes) {
         x.end(0);
         int[] five = new int[5];
